@@ -12,6 +12,7 @@ public final class JoinedStores {
     private static final int MESSAGES = 6, SHEETS = 4, ITEMS = 40, TOLD_ITEMS = 4;
     private static final int DRAWS = 20, SEEDS = 8, DRAWS_OF_CHANCE = 8;
     private static final int INTS = 0, FLOATS = 1;
+    private static final int LEAST_INT = -2147483648, GREATEST_INT = 2147483647;
 
     private static final int BAG = 0, SET = 1, COUNT = 2, LATEST = 3, MOST = 4, MEAN = 5, KINDS = 6;
     private static final int[] UNDER = {NONE, BAG, BAG, SET, COUNT, LATEST};
@@ -467,7 +468,7 @@ public final class JoinedStores {
                 now.dots.markOfValue(store, object, v, fresh);
                 break;
             case MOST:
-                now.dots.markBetween(store, object, Integer.MIN_VALUE, v, fresh);
+                now.dots.markBetween(store, object, LEAST_INT, v, fresh);
                 break;
             case LATEST:
             case MEAN:
@@ -635,7 +636,7 @@ public final class JoinedStores {
         if (f == 0) {
             return 0;
         }
-        int sign = f < 0 ? Integer.MIN_VALUE : 0;
+        int sign = f < 0 ? LEAST_INT : 0;
         float part = f < 0 ? -f : f;
         int exponent = 127;
         while (part >= 2 && exponent < 254) {
@@ -891,7 +892,7 @@ public final class JoinedStores {
         }
 
         void markAll(Store store, int object, Store gone) {
-            markBetween(store, object, Integer.MIN_VALUE, Integer.MAX_VALUE, gone);
+            markBetween(store, object, LEAST_INT, GREATEST_INT, gone);
         }
 
         void markOfValue(Store store, int object, int v, Store gone) {
@@ -950,7 +951,7 @@ public final class JoinedStores {
             if (size == 0) {
                 return 0;
             }
-            int greatest = Integer.MIN_VALUE;
+            int greatest = LEAST_INT;
             for (int i = 0; i < size; i++) {
                 greatest = Math.max(greatest, values[gathered[i]]);
             }

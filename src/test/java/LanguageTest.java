@@ -11,7 +11,10 @@ import java.util.List;
 import java.util.Set;
 import java.util.TreeSet;
 
-/** The face of the class, and what of the language's rules can be seen from the class and its text. Runs in the project's folder. */
+/**
+ * The face of the class, and what of the language's rules can be seen from the class and its text.
+ * Runs in the project's folder.
+ */
 public final class LanguageTest {
     private static final String[] FACE = {
         "int add(int,int,int,int)", "int take(int,int,int,int)", "int reset(int,int)", "int kind(int,int,int)",
@@ -22,7 +25,7 @@ public final class LanguageTest {
         "int image()", "int back()", "int count(int)", "int sheet(int,int,int)", "int put(int,int,int)",
         "long item(int,int)", "int copy(int,int,int,int,int)"};
     private static final String[] CONSTANTS = {"NONE", "BAD", "STATE", "FULL"};
-    private static final String[] BANNED = {"->", "::", "Exact(", "Float.", "Double.", "System.out", "System.in",
+    private static final String[] BANNED = {"->", "::", "Exact(", "Float.", "Double.", "_VALUE", "System.out", "System.in",
         "while (true)", "for (;;)"};
     private static final String[] BANNED_WORDS = {"import", "package", "throw", "throws", "try", "catch", "finally",
         "synchronized", "assert", "record", "var", "yield", "volatile", "native", "transient", "Object", "Thread", "Random"};

@@ -1061,6 +1061,8 @@ public final class PromisesTest {
         due("met", 7, x.met(1, 3));
         x.back();
         due("met again", 0, x.met(1, 3));
+        due("alike what all of them met to then", 1, x.count(2));
+        due("alive in all met", 2, x.count(3));
     }
 
     private static void count() {
